@@ -113,7 +113,9 @@ public final class EscapeMill {
     }
 
     public int run(boolean milled) {
-        settle();
+        if (milled) {
+            settle();
+        }
         return machine.go(codes, plans, milled);
     }
 

@@ -39,6 +39,12 @@ public final class AnalysisTest {
         CHECK.due("given and stored", one(0, Ops.i(Ops.NEW, 3), Ops.i(Ops.STORE, 3, 0), Ops.i(Ops.RETURN, 3)).escape(2, 0), 2);
         CHECK.due("put into a parameter", one(1, Ops.i(Ops.NEW, 3), Ops.i(Ops.PUTR, 0, 3, 1)).escape(2, 0), 1);
         CHECK.due("put into the second parameter", one(2, Ops.i(Ops.NEW, 3), Ops.i(Ops.PUTR, 1, 3, 1)).escape(2, 0), 1);
+        EscapeMill both = one(2, Ops.i(Ops.NEW, 2), Ops.i(Ops.NEW, 3), Ops.i(Ops.PUTR, 0, 2, 1), Ops.i(Ops.RETURN, 3));
+        CHECK.due("put into the first of two", both.escape(2, 0), 1);
+        CHECK.due("given beside that", both.escape(2, 1), 1);
+        EscapeMill either = one(0, Ops.i(Ops.NEW, 2), Ops.i(Ops.NEW, 3), Ops.i(Ops.RETURN, 2), Ops.i(Ops.RETURN, 3));
+        CHECK.due("given by the first RETURN", either.escape(2, 0), 1);
+        CHECK.due("given by the second RETURN", either.escape(2, 1), 1);
         CHECK.due("R0 is no parameter's", one(0, Ops.i(Ops.NEW, 3), Ops.i(Ops.PUTR, 0, 3, 1)).escape(2, 0), 0);
         CHECK.due("holds a parameter", one(1, Ops.i(Ops.NEW, 3), Ops.i(Ops.PUTR, 3, 0, 1)).escape(2, 0), 0);
         CHECK.due("put into what was fetched", one(0, Ops.i(Ops.FETCH, 1, 0), Ops.i(Ops.NEW, 3),

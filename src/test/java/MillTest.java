@@ -19,6 +19,8 @@ public final class MillTest {
         noPairs();
         pairsNeedTheirNew();
         milledRuns();
+        partsOfEachReference();
+        partsOfTwoMethods();
         CHECK.end();
     }
 
@@ -143,7 +145,7 @@ public final class MillTest {
             boolean parts = op == Ops.NEW || op == Ops.LOCK || op == Ops.UNLOCK || op == Ops.JUMP || op == Ops.ZERO
                     || op == Ops.RETURN || op == Ops.CALL;
             int due = parts ? 0 : 2;
-            int[] between = {op, 1, 1, 1, 4};
+            int[] between = {op, 1, 1, 1, 0};
             fates("op " + op + " between", copied(Ops.i(Ops.LOCK, 2), between, Ops.i(Ops.SHOW, 0), Ops.i(Ops.UNLOCK, 2)),
                     0, 0, due, op == Ops.NEW ? 1 : 0, 0, due);
         }
@@ -205,6 +207,21 @@ public final class MillTest {
                 CHECK.due("shown(" + s + ") of run " + k, mill.shown(s), shown[s]);
             }
         }
+    }
+
+    private static void partsOfEachReference() {
+        for (int r = 0; r < 4; r++) {
+            EscapeMill mill = Ops.mill(Ops.i(Ops.NEW, r), Ops.i(Ops.LOCK, r), Ops.i(Ops.UNLOCK, r), Ops.i(Ops.LOCK, r));
+            mill.run(false);
+            CHECK.due("objects of R" + r, mill.latest(3), 1);
+            CHECK.due("locks of R" + r, mill.latest(4), 3);
+            mill.run(true);
+            CHECK.due("objects of R" + r + " as milled", mill.latest(3), 0);
+            CHECK.due("locks of R" + r + " as milled", mill.latest(4), 0);
+        }
+    }
+
+    private static void partsOfTwoMethods() {
         EscapeMill deep = Ops.mill(Ops.i(Ops.NEW, 2), Ops.number(1, 1), Ops.i(Ops.PUTI, 2, 1, 0), Ops.i(Ops.LOCK, 2),
                 Ops.call(3, 1, 0, 0), Ops.i(Ops.GETI, 0, 2, 0), Ops.i(Ops.SHOW, 0), Ops.i(Ops.UNLOCK, 2));
         Ops.write(deep, 1, 0, Ops.i(Ops.NEW, 2), Ops.i(Ops.GETI, 0, 2, 0), Ops.i(Ops.SHOW, 0), Ops.number(1, 2),

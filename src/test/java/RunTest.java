@@ -209,9 +209,10 @@ public final class RunTest {
     private static void runsAreFresh() {
         EscapeMill mill = Ops.mill(Ops.i(Ops.FETCH, 0, 0), Ops.i(Ops.SAME, 0, 0, 3), Ops.i(Ops.SHOW, 0),
                 Ops.i(Ops.NEW, 1), Ops.i(Ops.STORE, 1, 0), Ops.i(Ops.GETI, 1, 1, 0), Ops.i(Ops.SHOW, 1),
+                Ops.i(Ops.GETR, 2, 1, 0), Ops.i(Ops.SAME, 0, 2, 3), Ops.i(Ops.SHOW, 0),
                 Ops.number(2, 9), Ops.i(Ops.PUTI, 1, 2, 0), Ops.i(Ops.PUTR, 1, 1, 0), Ops.i(Ops.LOCK, 1));
-        due("the first run", mill, 0, 11, 1, 0);
-        due("a later run", mill, 0, 11, 1, 0);
+        due("the first run", mill, 0, 14, 1, 0, 1);
+        due("a later run", mill, 0, 14, 1, 0, 1);
         EscapeMill unlock = Ops.mill(Ops.i(Ops.NEW, 1), Ops.i(Ops.STORE, 1, 0), Ops.i(Ops.LOCK, 1));
         unlock.run(false);
         Ops.write(unlock, 0, 0, Ops.i(Ops.NEW, 1), Ops.i(Ops.STORE, 1, 0), Ops.i(Ops.UNLOCK, 1));
