@@ -24,15 +24,9 @@ public final class MillTest {
         CHECK.end();
     }
 
-    private static void fates(String what, EscapeMill mill, int... due) {
-        for (int i = 0; i < due.length; i++) {
-            CHECK.due(what + ": fate(0, " + i + ")", mill.fate(0, i), due[i]);
-        }
-    }
-
     private static void fateAnswersNone() {
         EscapeMill mill = Ops.mill(Ops.i(Ops.SHOW, 0), Ops.i(Ops.SHOW, 0));
-        fates("plain ones stay", mill, 0, 0, NONE);
+        CHECK.fates("plain ones stay", mill, 0, 0, NONE);
         for (int i : new int[] {-1, 2, 24, Integer.MIN_VALUE, Integer.MAX_VALUE}) {
             CHECK.due("fate of no instruction", mill.fate(0, i), NONE);
         }
@@ -42,17 +36,17 @@ public final class MillTest {
     }
 
     private static void takenApart() {
-        fates("all that works on parts", Ops.mill(Ops.i(Ops.NEW, 2), Ops.i(Ops.GETR, 1, 2, 0), Ops.i(Ops.PUTR, 2, 1, 1),
+        CHECK.fates("all that works on parts", Ops.mill(Ops.i(Ops.NEW, 2), Ops.i(Ops.GETR, 1, 2, 0), Ops.i(Ops.PUTR, 2, 1, 1),
                 Ops.i(Ops.GETI, 0, 2, 0), Ops.i(Ops.PUTI, 2, 0, 0), Ops.i(Ops.LOCK, 2), Ops.i(Ops.UNLOCK, 2),
                 Ops.i(Ops.SAME, 0, 2, 1), Ops.i(Ops.SAME, 0, 1, 2), Ops.i(Ops.SAME, 0, 2, 2), Ops.i(Ops.SAME, 0, 1, 1),
                 Ops.i(Ops.SHOW, 2)),
                 1, 1, 1, 1, 1, 1, 1, 1, 1, 1, 0, 0);
-        fates("an object that is not used", Ops.mill(Ops.i(Ops.NEW, 0)), 1);
-        fates("two of them", Ops.mill(Ops.i(Ops.NEW, 0), Ops.i(Ops.NEW, 3), Ops.i(Ops.SAME, 1, 0, 3), Ops.i(Ops.LOCK, 3)), 1, 1, 1, 1);
+        CHECK.fates("an object that is not used", Ops.mill(Ops.i(Ops.NEW, 0)), 1);
+        CHECK.fates("two of them", Ops.mill(Ops.i(Ops.NEW, 0), Ops.i(Ops.NEW, 3), Ops.i(Ops.SAME, 1, 0, 3), Ops.i(Ops.LOCK, 3)), 1, 1, 1, 1);
     }
 
     private static void numbersAreNoReferences() {
-        fates("2 as a number, an int, a global, a method", Ops.mill(Ops.i(Ops.NEW, 2), Ops.i(Ops.PUTI, 1, 2, 0),
+        CHECK.fates("2 as a number, an int, a global, a method", Ops.mill(Ops.i(Ops.NEW, 2), Ops.i(Ops.PUTI, 1, 2, 0),
                 Ops.i(Ops.GETI, 2, 1, 0), Ops.number(2, 2), Ops.i(Ops.ADD, 2, 2, 2), Ops.i(Ops.SAME, 2, 1, 1),
                 Ops.i(Ops.STORE, 1, 2), Ops.i(Ops.FETCH, 1, 2), Ops.zero(2, 2), Ops.i(Ops.SHOW, 2), Ops.call(1, 2, 2, 2),
                 Ops.i(Ops.NULL, 1, 2, 2), Ops.i(Ops.RETURN, 1, 2, 2), new int[] {Ops.JUMP, 2, 2, 2, 2},
@@ -64,25 +58,25 @@ public final class MillTest {
         int[][] others = {Ops.i(Ops.NEW, 2), Ops.i(Ops.COPY, 2, 3), Ops.i(Ops.NULL, 2), Ops.i(Ops.GETR, 2, 3, 0),
             Ops.i(Ops.FETCH, 2, 0), Ops.call(2, 1, 0, 0)};
         for (int[] other : others) {
-            fates("also defined by op " + other[0], Ops.mill(Ops.i(Ops.NEW, 2), Ops.i(Ops.LOCK, 2), Ops.i(Ops.UNLOCK, 2), other), 0, 0, 0, 0);
-            fates("defined first by op " + other[0], Ops.mill(other, Ops.i(Ops.NEW, 2), Ops.i(Ops.LOCK, 2), Ops.i(Ops.UNLOCK, 2)), 0, 0, 0, 0);
+            CHECK.fates("also defined by op " + other[0], Ops.mill(Ops.i(Ops.NEW, 2), Ops.i(Ops.LOCK, 2), Ops.i(Ops.UNLOCK, 2), other), 0, 0, 0, 0);
+            CHECK.fates("defined first by op " + other[0], Ops.mill(other, Ops.i(Ops.NEW, 2), Ops.i(Ops.LOCK, 2), Ops.i(Ops.UNLOCK, 2)), 0, 0, 0, 0);
         }
     }
 
     private static void parametersStay() {
         EscapeMill mill = Ops.mill(Ops.i(Ops.NEW, 0), Ops.i(Ops.NEW, 1), Ops.i(Ops.LOCK, 0), Ops.i(Ops.LOCK, 1));
-        fates("no parameters", mill, 1, 1, 1, 1);
+        CHECK.fates("no parameters", mill, 1, 1, 1, 1);
         mill.parameters(0, 1);
-        fates("one parameter", mill, 0, 1, 0, 1);
+        CHECK.fates("one parameter", mill, 0, 1, 0, 1);
         mill.parameters(0, 2);
-        fates("two parameters", mill, 0, 0, 0, 0);
+        CHECK.fates("two parameters", mill, 0, 0, 0, 0);
     }
 
     private static void handedOn() {
         int[][] ways = {Ops.i(Ops.COPY, 1, 2), Ops.i(Ops.PUTR, 1, 2, 0), Ops.i(Ops.PUTR, 2, 2, 0), Ops.i(Ops.STORE, 2, 0),
             Ops.i(Ops.RETURN, 2)};
         for (int[] way : ways) {
-            fates("handed on by op " + way[0], Ops.mill(Ops.i(Ops.NEW, 2), Ops.i(Ops.GETI, 0, 2, 0), way), 0, 0, 0);
+            CHECK.fates("handed on by op " + way[0], Ops.mill(Ops.i(Ops.NEW, 2), Ops.i(Ops.GETI, 0, 2, 0), way), 0, 0, 0);
         }
     }
 
@@ -94,7 +88,7 @@ public final class MillTest {
                 if (empty == 0) {
                     mill.put(1, Ops.SHOW, 0, 0, 0, 0);
                 }
-                fates("arguments with " + many, mill, many >= 1 ? 0 : 1, many == 2 ? 0 : 1, 0);
+                CHECK.fates("arguments with " + many, mill, many >= 1 ? 0 : 1, many == 2 ? 0 : 1, 0);
             }
         }
     }
@@ -104,21 +98,21 @@ public final class MillTest {
             Ops.i(Ops.LOCK, 2), Ops.i(Ops.UNLOCK, 2), Ops.i(Ops.SAME, 0, 2, 1), Ops.i(Ops.SAME, 0, 1, 2)};
         for (int[] use : uses) {
             String op = "use of op " + use[0];
-            fates(op + " before", Ops.mill(use, Ops.i(Ops.NEW, 2)), 0, 0);
-            fates(op + " behind a way round", Ops.mill(Ops.zero(0, 2), Ops.i(Ops.NEW, 2), use), 0, 0, 0);
-            fates(op + " inside", Ops.mill(Ops.zero(0, 3), Ops.i(Ops.NEW, 2), use, Ops.i(Ops.SHOW, 0)), 0, 1, 1, 0);
-            fates(op + " behind a loop", Ops.mill(Ops.i(Ops.SHOW, 0), Ops.i(Ops.NEW, 2), use, Ops.zero(0, 0)), 0, 1, 1, 0);
-            fates(op + " reached by a JUMP back", Ops.mill(Ops.jump(3), use, Ops.i(Ops.RETURN, 3), Ops.i(Ops.NEW, 2), Ops.jump(1)), 0, 1, 0, 1, 0);
+            CHECK.fates(op + " before", Ops.mill(use, Ops.i(Ops.NEW, 2)), 0, 0);
+            CHECK.fates(op + " behind a way round", Ops.mill(Ops.zero(0, 2), Ops.i(Ops.NEW, 2), use), 0, 0, 0);
+            CHECK.fates(op + " inside", Ops.mill(Ops.zero(0, 3), Ops.i(Ops.NEW, 2), use, Ops.i(Ops.SHOW, 0)), 0, 1, 1, 0);
+            CHECK.fates(op + " behind a loop", Ops.mill(Ops.i(Ops.SHOW, 0), Ops.i(Ops.NEW, 2), use, Ops.zero(0, 0)), 0, 1, 1, 0);
+            CHECK.fates(op + " reached by a JUMP back", Ops.mill(Ops.jump(3), use, Ops.i(Ops.RETURN, 3), Ops.i(Ops.NEW, 2), Ops.jump(1)), 0, 1, 0, 1, 0);
         }
     }
 
     private static void unreachable() {
-        fates("no way leads to the use", Ops.mill(Ops.zero(0, 3), Ops.i(Ops.NEW, 2), Ops.i(Ops.RETURN, 3), Ops.jump(5),
+        CHECK.fates("no way leads to the use", Ops.mill(Ops.zero(0, 3), Ops.i(Ops.NEW, 2), Ops.i(Ops.RETURN, 3), Ops.jump(5),
                 Ops.i(Ops.LOCK, 2), Ops.i(Ops.SHOW, 0)), 0, 1, 0, 0, 1, 0);
-        fates("no way leads to both", Ops.mill(Ops.i(Ops.RETURN, 3), Ops.i(Ops.LOCK, 2), Ops.i(Ops.NEW, 2)), 0, 1, 1);
-        fates("no way leads to the NEW", Ops.mill(Ops.i(Ops.LOCK, 2), Ops.i(Ops.RETURN, 3), Ops.i(Ops.NEW, 2)), 0, 0, 0);
-        fates("a JUMP behind the last one leads nowhere", Ops.mill(Ops.jump(-1), Ops.i(Ops.LOCK, 2), Ops.i(Ops.NEW, 2)), 0, 1, 1);
-        fates("a ZERO goes on, too", Ops.mill(Ops.zero(0, 24), Ops.i(Ops.LOCK, 2), Ops.i(Ops.NEW, 2)), 0, 0, 0);
+        CHECK.fates("no way leads to both", Ops.mill(Ops.i(Ops.RETURN, 3), Ops.i(Ops.LOCK, 2), Ops.i(Ops.NEW, 2)), 0, 1, 1);
+        CHECK.fates("no way leads to the NEW", Ops.mill(Ops.i(Ops.LOCK, 2), Ops.i(Ops.RETURN, 3), Ops.i(Ops.NEW, 2)), 0, 0, 0);
+        CHECK.fates("a JUMP behind the last one leads nowhere", Ops.mill(Ops.jump(-1), Ops.i(Ops.LOCK, 2), Ops.i(Ops.NEW, 2)), 0, 1, 1);
+        CHECK.fates("a ZERO goes on, too", Ops.mill(Ops.zero(0, 24), Ops.i(Ops.LOCK, 2), Ops.i(Ops.NEW, 2)), 0, 0, 0);
     }
 
     /** A NEW of R2 that is copied, so that it is not taken apart, and then these. */
@@ -131,13 +125,13 @@ public final class MillTest {
     }
 
     private static void pairs() {
-        fates("a pair", copied(Ops.i(Ops.LOCK, 2), Ops.i(Ops.UNLOCK, 2)), 0, 0, 2, 2);
-        fates("two pairs", copied(Ops.i(Ops.LOCK, 2), Ops.i(Ops.UNLOCK, 2), Ops.i(Ops.LOCK, 2), Ops.i(Ops.UNLOCK, 2)), 0, 0, 2, 2, 2, 2);
-        fates("one within another", copied(Ops.i(Ops.LOCK, 2), Ops.i(Ops.LOCK, 2), Ops.i(Ops.UNLOCK, 2), Ops.i(Ops.UNLOCK, 2)), 0, 0, 0, 2, 2, 0);
-        fates("of a copy", copied(Ops.i(Ops.LOCK, 3), Ops.i(Ops.UNLOCK, 3)), 0, 0, 0, 0);
-        fates("of two references", copied(Ops.i(Ops.LOCK, 2), Ops.i(Ops.UNLOCK, 3)), 0, 0, 0, 0);
-        fates("the wrong way round", copied(Ops.i(Ops.UNLOCK, 2), Ops.i(Ops.LOCK, 2)), 0, 0, 0, 0);
-        fates("to the end", copied(Ops.i(Ops.LOCK, 2), Ops.i(Ops.SHOW, 2)), 0, 0, 0, 0);
+        CHECK.fates("a pair", copied(Ops.i(Ops.LOCK, 2), Ops.i(Ops.UNLOCK, 2)), 0, 0, 2, 2);
+        CHECK.fates("two pairs", copied(Ops.i(Ops.LOCK, 2), Ops.i(Ops.UNLOCK, 2), Ops.i(Ops.LOCK, 2), Ops.i(Ops.UNLOCK, 2)), 0, 0, 2, 2, 2, 2);
+        CHECK.fates("one within another", copied(Ops.i(Ops.LOCK, 2), Ops.i(Ops.LOCK, 2), Ops.i(Ops.UNLOCK, 2), Ops.i(Ops.UNLOCK, 2)), 0, 0, 0, 2, 2, 0);
+        CHECK.fates("of a copy", copied(Ops.i(Ops.LOCK, 3), Ops.i(Ops.UNLOCK, 3)), 0, 0, 0, 0);
+        CHECK.fates("of two references", copied(Ops.i(Ops.LOCK, 2), Ops.i(Ops.UNLOCK, 3)), 0, 0, 0, 0);
+        CHECK.fates("the wrong way round", copied(Ops.i(Ops.UNLOCK, 2), Ops.i(Ops.LOCK, 2)), 0, 0, 0, 0);
+        CHECK.fates("to the end", copied(Ops.i(Ops.LOCK, 2), Ops.i(Ops.SHOW, 2)), 0, 0, 0, 0);
     }
 
     private static void betweenAPair() {
@@ -146,7 +140,7 @@ public final class MillTest {
                     || op == Ops.RETURN || op == Ops.CALL;
             int due = parts ? 0 : 2;
             int[] between = {op, 1, 1, 1, 0};
-            fates("op " + op + " between", copied(Ops.i(Ops.LOCK, 2), between, Ops.i(Ops.SHOW, 0), Ops.i(Ops.UNLOCK, 2)),
+            CHECK.fates("op " + op + " between", copied(Ops.i(Ops.LOCK, 2), between, Ops.i(Ops.SHOW, 0), Ops.i(Ops.UNLOCK, 2)),
                     0, 0, due, op == Ops.NEW ? 1 : 0, 0, due);
         }
     }
@@ -157,36 +151,36 @@ public final class MillTest {
             int[][] body = {Ops.i(Ops.LOCK, 2), Ops.i(Ops.SHOW, 0), Ops.i(Ops.SHOW, 0), Ops.i(Ops.UNLOCK, 2)};
             EscapeMill zero = copied(body);
             zero.put(0, Ops.ZERO, 0, 0, 0, n);
-            fates("ZERO to " + n, zero, 0, 0, due, 0, 0, due, 0);
+            CHECK.fates("ZERO to " + n, zero, 0, 0, due, 0, 0, due, 0);
             EscapeMill jump = copied(body);
             jump.put(0, Ops.RETURN, 1, 0, 0, 0);
             jump.put(0, Ops.JUMP, 0, 0, 0, n);
-            fates("JUMP to " + n + " that is never done", jump, 0, 0, due, 0, 0, due, 0, 0);
+            CHECK.fates("JUMP to " + n + " that is never done", jump, 0, 0, due, 0, 0, due, 0, 0);
         }
         EscapeMill other = copied(Ops.i(Ops.LOCK, 2), Ops.i(Ops.SHOW, 0), Ops.i(Ops.UNLOCK, 2), new int[] {Ops.CONST, 0, 0, 0, 3});
-        fates("an n that is no jump's", other, 0, 0, 2, 0, 2);
+        CHECK.fates("an n that is no jump's", other, 0, 0, 2, 0, 2);
     }
 
     private static void noPairs() {
         EscapeMill given = copied(Ops.i(Ops.LOCK, 2), Ops.i(Ops.UNLOCK, 2), Ops.i(Ops.RETURN, 3));
-        fates("escape 1", given, 0, 0, 0, 0, 0);
+        CHECK.fates("escape 1", given, 0, 0, 0, 0, 0);
         EscapeMill stored = copied(Ops.i(Ops.LOCK, 2), Ops.i(Ops.UNLOCK, 2), Ops.i(Ops.STORE, 3, 0));
-        fates("escape 2", stored, 0, 0, 0, 0, 0);
+        CHECK.fates("escape 2", stored, 0, 0, 0, 0, 0);
         EscapeMill again = copied(Ops.i(Ops.LOCK, 2), Ops.i(Ops.UNLOCK, 2), Ops.i(Ops.NULL, 2));
-        fates("defined twice", again, 0, 0, 0, 0, 0);
+        CHECK.fates("defined twice", again, 0, 0, 0, 0, 0);
         EscapeMill parameter = Ops.mill(Ops.i(Ops.NEW, 0), Ops.i(Ops.COPY, 3, 0), Ops.i(Ops.LOCK, 0), Ops.i(Ops.UNLOCK, 0));
-        fates("no parameter's", parameter, 0, 0, 2, 2);
+        CHECK.fates("no parameter's", parameter, 0, 0, 2, 2);
         parameter.parameters(0, 1);
-        fates("a parameter's", parameter, 0, 0, 0, 0);
-        fates("no NEW", Ops.mill(Ops.i(Ops.FETCH, 2, 0), Ops.i(Ops.LOCK, 2), Ops.i(Ops.UNLOCK, 2)), 0, 0, 0);
+        CHECK.fates("a parameter's", parameter, 0, 0, 0, 0);
+        CHECK.fates("no NEW", Ops.mill(Ops.i(Ops.FETCH, 2, 0), Ops.i(Ops.LOCK, 2), Ops.i(Ops.UNLOCK, 2)), 0, 0, 0);
     }
 
     private static void pairsNeedTheirNew() {
-        fates("a way round the NEW", Ops.mill(Ops.zero(0, 3), Ops.i(Ops.NEW, 2), Ops.i(Ops.COPY, 3, 2), Ops.i(Ops.LOCK, 2),
+        CHECK.fates("a way round the NEW", Ops.mill(Ops.zero(0, 3), Ops.i(Ops.NEW, 2), Ops.i(Ops.COPY, 3, 2), Ops.i(Ops.LOCK, 2),
                 Ops.i(Ops.UNLOCK, 2)), 0, 0, 0, 0, 0);
-        fates("one with and one without", Ops.mill(Ops.zero(0, 4), Ops.i(Ops.NEW, 2), Ops.i(Ops.LOCK, 2), Ops.i(Ops.UNLOCK, 2),
+        CHECK.fates("one with and one without", Ops.mill(Ops.zero(0, 4), Ops.i(Ops.NEW, 2), Ops.i(Ops.LOCK, 2), Ops.i(Ops.UNLOCK, 2),
                 Ops.i(Ops.LOCK, 2), Ops.i(Ops.UNLOCK, 2)), 0, 0, 2, 2, 0, 0);
-        fates("no way leads there", Ops.mill(Ops.i(Ops.LOCK, 2), Ops.i(Ops.RETURN, 1), Ops.i(Ops.LOCK, 2), Ops.i(Ops.UNLOCK, 2),
+        CHECK.fates("no way leads there", Ops.mill(Ops.i(Ops.LOCK, 2), Ops.i(Ops.RETURN, 1), Ops.i(Ops.LOCK, 2), Ops.i(Ops.UNLOCK, 2),
                 Ops.i(Ops.NEW, 2)), 0, 0, 2, 2, 0);
     }
 
