@@ -182,13 +182,15 @@ public final class EdgeAnalysisTest {
 
     private static void whatOthersKnow() {
         CHECK.sentence("All that is reached from the WORLD holds (in both fields) the WORLD. Rx may be what the WORLD holds.");
-        EscapeMill mill = Programs.mill("NEW 1; NEW 2; PUTR 1 2 0; STORE 1 0; GETR 3 2 0; GETR 0 2 1", "SHOW 0");
-        CHECK.due("F0 before a CALL", mill.may(0, 3), 0);
-        CHECK.due("F1 before a CALL", mill.may(0, 0), 0);
-        Programs.add(mill, 0, "CALL 2 #1");
-        CHECK.due("F0 behind it", mill.may(0, 3) & Ops.WORLD, Ops.WORLD);
-        CHECK.due("F1 behind it", mill.may(0, 0) & Ops.WORLD, Ops.WORLD);
-        CHECK.due("Rx", mill.may(0, 2), 3 | Ops.WORLD);
+        for (int f = 0; f < 2; f++) {
+            EscapeMill mill = Programs.mill("NEW 1; NEW 2; PUTR 1 2 0; STORE 1 0; GETR 3 2 " + f, "SHOW 0");
+            CHECK.due("F" + f + " without a CALL", mill.may(0, 3), 0);
+            Programs.add(mill, 0, "CALL 0 #1");
+            CHECK.due("F" + f + " with a CALL", mill.may(0, 3), Ops.WORLD);
+            CHECK.due("Rx", mill.may(0, 0), Ops.WORLD | 1);
+            EscapeMill own = Programs.mill("NEW 1; NEW 2; PUTR 1 2 0; STORE 2 0; GETR 3 1 1; CALL 0 #1", "SHOW 0");
+            CHECK.due("what is not reached from it", own.may(0, 3), 0);
+        }
     }
 
     private static void bothArguments() {
@@ -391,5 +393,11 @@ public final class EdgeAnalysisTest {
         CHECK.due("no instructions", mill.escape(0, 0), 2);
         Programs.write(mill, 2, "(1) SHOW 0");
         CHECK.due("not called any more", mill.escape(0, 0), 0);
+        EscapeMill again = Programs.mill("(1) NEW 2; PUTR 2 0 1; RETURN 2");
+        CHECK.due("given", again.escape(0, 0), 1);
+        CHECK.due("a parameter that is given", again.summary(0, 0), 1);
+        Programs.write(again, 0, "(1) NEW 2; PUTR 2 0 1; SHOW 2");
+        CHECK.due("not given any more", again.escape(0, 0), 0);
+        CHECK.due("a parameter that is not given any more", again.summary(0, 0), 0);
     }
 }

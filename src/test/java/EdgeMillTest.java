@@ -84,6 +84,14 @@ public final class EdgeMillTest {
         String chain = "ZERO 0 #22;" + "SHOW 0;".repeat(20) + "NEW 2; LOCK 2; SHOW 0";
         CHECK.due("a short way round it", Programs.mill(chain).fate(0, 21), 0);
         CHECK.due("a short way behind its use", Programs.mill(chain.replace("#22", "#23")).fate(0, 21), 1);
+        for (int op = 1; op <= 18; op++) {
+            if (op != Ops.JUMP && op != Ops.ZERO && op != Ops.RETURN) {
+                EscapeMill mill = new EscapeMill();
+                mill.put(0, op, 1, 1, 1, 2);
+                Programs.add(mill, 0, "NEW 2; LOCK 2");
+                CHECK.fates("the n of op " + op + " is no way", mill, 0, 1, 1);
+            }
+        }
         // Both ways go backwards step by step, from 21 to 1 and from 23 to 4: as long as a way can be.
         EscapeMill over = Programs.mill("JUMP #22; LOCK 2;" + backwards(2, 21, 1) + "NEW 2; JUMP #21");
         CHECK.due("a long way over it", over.fate(0, 22), 1);
@@ -134,6 +142,7 @@ public final class EdgeMillTest {
         for (String way : new String[] {"COPY 3 2", "PUTR 1 2 0", "PUTR 2 2 1", "STORE 2 0", "RETURN 2"}) {
             CHECK.fates(way, Programs.mill("NEW 2; GETI 0 2 0; " + way), 0, 0, 0);
             CHECK.fates(way + " that is never done", Programs.mill("NEW 2; JUMP #9; " + way), 0, 0, 0);
+            CHECK.fates(way + " before it", Programs.mill(way + "; NEW 2"), 0, 0);
         }
         for (String other : new String[] {"COPY 3 1", "PUTR 2 1 0", "STORE 1 2", "RETURN 1", "PUTI 1 2 0", "SHOW 2", "ZERO 2 #1", "ADD 2 2 2"}) {
             CHECK.due(other, Programs.mill("NEW 2; " + other).fate(0, 0), 1);
@@ -285,6 +294,12 @@ public final class EdgeMillTest {
                 CHECK.fates(op + " to " + n + " of a near pair", copied("LOCK 2; UNLOCK 2; " + op + " #" + n), 0, 0, near, near, 0);
             }
         }
+        // From instruction 0 round the NEW, to the LOCK at 3, the UNLOCK at 4 and behind it.
+        String round = "NEW 2; COPY 3 2; LOCK 2; UNLOCK 2";
+        CHECK.fates("ZERO at 0 to the UNLOCK", Programs.mill("ZERO 0 #4;" + round), 0, 0, 0, 0, 0);
+        CHECK.runs("ZERO at 0 to the UNLOCK", Programs.mill("ZERO 0 #4;" + round), 1, 2);
+        CHECK.fates("ZERO at 0 behind it", Programs.mill("ZERO 0 #5;" + round), 0, 0, 0, 2, 2);
+        CHECK.runs("ZERO at 0 behind it", Programs.mill("ZERO 0 #5;" + round), 0, 1);
         EscapeMill others = copied("LOCK 2; SHOW 0; UNLOCK 2");
         for (int op = 0; op <= 18; op++) {
             if (op != Ops.JUMP && op != Ops.ZERO) {

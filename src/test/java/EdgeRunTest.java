@@ -287,6 +287,11 @@ public final class EdgeRunTest {
         locks("none", Programs.mill("NEW 2; SHOW 0"), 0, 0);
         locks("both kinds", Programs.mill("NEW 2; STORE 2 0; LOCK 2; LOCK 2; UNLOCK 2"), 3, 3);
         locks("on parts", Programs.mill("NEW 2; LOCK 2; LOCK 2; UNLOCK 2"), 3, 0);
+        for (int r = 0; r < 4; r++) {
+            String locked = "NEW 2; LOCK 2; UNLOCK 2; LOCK 2;".replace("2", "" + r);
+            locks("on parts of R" + r, Programs.mill(locked), 3, 0);
+            locks("on parts of R" + r + " in a called method", Programs.mill("CALL 0 #1", locked), 3, 0);
+        }
         locks("of a pair", Programs.mill("NEW 2; COPY 3 2; LOCK 2; UNLOCK 2; LOCK 3"), 3, 1);
         locks("LOCK that failed", Programs.mill("NEW 2; STORE 2 0; LOCK 2; LOCK 3"), 1, 1);
         locks("UNLOCK of NULL", Programs.mill("NEW 2; STORE 2 0; LOCK 2; UNLOCK 3"), 1, 1);
