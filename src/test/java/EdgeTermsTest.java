@@ -21,6 +21,7 @@ public final class EdgeTermsTest {
         parametersOfMethodZero();
         jumpsToNoInstruction();
         doingNothingCounts();
+        fiveHundredAndTwelveCalls();
         CHECK.end();
     }
 
@@ -214,5 +215,24 @@ public final class EdgeTermsTest {
         mill.run(true);
         CHECK.due("objects as milled", mill.latest(3), 1);
         CHECK.due("locks as milled", mill.latest(4), 0);
+    }
+
+    private static void fiveHundredAndTwelveCalls() {
+        CHECK.sentence("An object is used for at most 512 calls after it has been made");
+        EscapeMill mill = new EscapeMill();
+        // 16 times 32 calls, each time the same.
+        for (int round = 0; round < 16; round++) {
+            for (int i = 0; i < 24; i++) {
+                CHECK.due("put in round " + round, mill.put(0, i < 23 ? Ops.NEW : Ops.JUMP, 2, 0, 0, 0), i);
+            }
+            CHECK.due("may in round " + round, mill.may(0, 2), (1 << 23) - 1);
+            CHECK.due("run in round " + round, mill.run(round % 2 == 1), 4);
+            CHECK.due("objects in round " + round, mill.latest(3), 384);
+            CHECK.due("instructions in round " + round, mill.latest(2), 400);
+            CHECK.due("escape in round " + round, mill.escape(0, 22), 0);
+            CHECK.due("fate in round " + round, mill.fate(0, 22), 0);
+            CHECK.due("length in round " + round, mill.length(0), 24);
+            CHECK.due("clear in round " + round, mill.clear(0), 24);
+        }
     }
 }
