@@ -214,6 +214,10 @@ public final class EdgeMillTest {
         CHECK.due("the last one", copied("LOCK 2;" + "SHOW 0;".repeat(20) + "UNLOCK 2").fate(0, 23), 2);
         CHECK.fates("the UNLOCK first", copied("UNLOCK 2; LOCK 2"), 0, 0, 0, 0);
         CHECK.fates("no UNLOCK", copied("LOCK 2; SHOW 0"), 0, 0, 0, 0);
+        CHECK.due("no UNLOCK, as the 24th", copied("SHOW 0;".repeat(21) + "LOCK 2").fate(0, 23), 0);
+        EscapeMill shorter = copied("LOCK 2; UNLOCK 2");
+        Programs.write(shorter, 0, "NEW 2; COPY 3 2; LOCK 2");
+        CHECK.fates("an UNLOCK that was cleared away", shorter, 0, 0, 0, NONE);
         CHECK.fates("no LOCK", copied("SHOW 0; UNLOCK 2"), 0, 0, 0, 0);
         CHECK.fates("of two Rs", copied("LOCK 2; UNLOCK 3"), 0, 0, 0, 0);
         CHECK.fates("of two Rs, the other way", copied("LOCK 3; UNLOCK 2"), 0, 0, 0, 0);

@@ -9,6 +9,7 @@ public final class EdgeTermsTest {
         variablesAtFirst();
         parametersInTheirPlace();
         objectsAtFirst();
+        objectsOfTheirOwn();
         globalsAtFirst();
         anyIntIsAnN();
         addWraps();
@@ -74,6 +75,24 @@ public final class EdgeTermsTest {
                     + "UNLOCK 2; UNLOCK 2;" + kept);
             CHECK.runs("the count made a second time", locked, 2, 13);
         }
+    }
+
+    private static void objectsOfTheirOwn() {
+        CHECK.sentence("NEW: Rx is a new object (and the others are left alone)");
+        String fill = "CONST 0 #8; CONST 1 #9; PUTI a 0 0; PUTI a 1 1; PUTR a 3 0; PUTR a 3 1; LOCK a;";
+        String look = "GETI 2 a 0; SHOW 2; GETI 2 a 1; SHOW 2; GETR c a 0; LOCK c; GETR c a 1; LOCK c; UNLOCK a;";
+        for (String abc : new String[] {"012", "021", "102", "120", "201", "210"}) {
+            for (String kept : new String[] {"", "STORE a 0;", "STORE b 0;"}) {
+                String text = "NEW 3;" + kept + "NEW a;" + fill + "NEW b;" + look;
+                for (int k = 0; k < 3; k++) {
+                    text = text.replace("abc".charAt(k) + "", abc.charAt(k) + "");
+                }
+                CHECK.runs(text, Programs.mill(text), 0, kept.isEmpty() ? 19 : 20, 8, 9);
+            }
+        }
+        EscapeMill called = Programs.mill("NEW 2; CONST 0 #8; PUTI 2 0 0; PUTI 2 0 1; CALL 0 #1; GETI 1 2 0; SHOW 1; GETI 1 2 1; SHOW 1",
+                "NEW 0; NEW 1; NEW 2; NEW 3");
+        CHECK.runs("in a called method", called, 0, 13, 8, 8);
     }
 
     private static void globalsAtFirst() {
