@@ -1,27 +1,13 @@
+import java.io.IOException;
 import java.lang.reflect.Constructor;
 import java.lang.reflect.Field;
 import java.lang.reflect.Method;
 import java.lang.reflect.Modifier;
-import java.util.Arrays;
 import java.util.TreeSet;
 
 /** The public face is the document's, and nothing else can be seen. */
 public final class FaceTest {
-    private static final String[] FACE = {
-        "boolean parameters(int,int) IllegalArgumentException",
-        "int put(int,int,int,int,int,int) IllegalArgumentException IllegalStateException",
-        "int clear(int) IllegalArgumentException",
-        "int run(boolean)",
-        "int shown(int) IndexOutOfBoundsException",
-        "int latest(int)",
-        "int escape(int,int)",
-        "int summary(int,int)",
-        "int fate(int,int)",
-        "int may(int,int)",
-        "int length(int)",
-    };
-
-    public static void main(String[] args) {
+    public static void main(String[] args) throws IOException {
         Check check = new Check("FaceTest");
         TreeSet<String> seen = new TreeSet<>();
         for (Method method : EscapeMill.class.getDeclaredMethods()) {
@@ -30,7 +16,10 @@ public final class FaceTest {
                 check.holds("public is " + method, Modifier.isPublic(method.getModifiers()));
             }
         }
-        check.holds("methods are " + seen, seen.equals(new TreeSet<>(Arrays.asList(FACE))));
+        check.holds("methods are " + seen, seen.equals(documented()));
+        check.due("methods of the document", seen.size(), 11);
+        check.due("NONE", EscapeMill.NONE, -1);
+        check.holds("the document has NONE", Pages.document().contains("public static final int NONE = -1;"));
         for (Field field : EscapeMill.class.getDeclaredFields()) {
             boolean open = field.getName().equals("NONE");
             check.holds("field " + field, open == !Modifier.isPrivate(field.getModifiers()));
@@ -42,6 +31,18 @@ public final class FaceTest {
         check.due("the class is public and final", EscapeMill.class.getModifiers(),
                 Modifier.PUBLIC | Modifier.FINAL);
         check.end();
+    }
+
+    /** The methods of the document's face, without the names of their parameters. */
+    private static TreeSet<String> documented() throws IOException {
+        TreeSet<String> methods = new TreeSet<>();
+        for (String[] member : Pages.face()) {
+            if (!member[0].equals("EscapeMill()")) {
+                String plain = member[0].replaceAll("(int|boolean) \\w+(, |\\))", "$1$2").replace(", ", ",");
+                methods.add(plain + member[1].replace(" throws", "").replace(",", ""));
+            }
+        }
+        return methods;
     }
 
     private static String told(Method method) {

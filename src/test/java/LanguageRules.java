@@ -1,5 +1,6 @@
 import com.sun.source.tree.AnnotationTree;
 import com.sun.source.tree.AssertTree;
+import com.sun.source.tree.AssignmentTree;
 import com.sun.source.tree.BinaryTree;
 import com.sun.source.tree.BlockTree;
 import com.sun.source.tree.ClassTree;
@@ -8,10 +9,13 @@ import com.sun.source.tree.CompoundAssignmentTree;
 import com.sun.source.tree.DoWhileLoopTree;
 import com.sun.source.tree.ExpressionTree;
 import com.sun.source.tree.ForLoopTree;
+import com.sun.source.tree.IdentifierTree;
 import com.sun.source.tree.ImportTree;
+import com.sun.source.tree.InstanceOfTree;
 import com.sun.source.tree.LambdaExpressionTree;
 import com.sun.source.tree.LiteralTree;
 import com.sun.source.tree.MemberReferenceTree;
+import com.sun.source.tree.MemberSelectTree;
 import com.sun.source.tree.MethodInvocationTree;
 import com.sun.source.tree.MethodTree;
 import com.sun.source.tree.NewArrayTree;
@@ -20,10 +24,13 @@ import com.sun.source.tree.SynchronizedTree;
 import com.sun.source.tree.ThrowTree;
 import com.sun.source.tree.Tree;
 import com.sun.source.tree.TryTree;
+import com.sun.source.tree.TypeCastTree;
+import com.sun.source.tree.UnaryTree;
 import com.sun.source.tree.VariableTree;
 import com.sun.source.tree.WhileLoopTree;
 import com.sun.source.util.TreePath;
 import com.sun.source.util.TreePathScanner;
+import com.sun.source.util.TreeScanner;
 import com.sun.source.util.Trees;
 import java.util.HashSet;
 import java.util.Map;
@@ -31,6 +38,8 @@ import java.util.Set;
 import java.util.TreeMap;
 import java.util.TreeSet;
 import javax.lang.model.element.Element;
+import javax.lang.model.element.ElementKind;
+import javax.lang.model.element.ExecutableElement;
 import javax.lang.model.element.Modifier;
 
 /**
@@ -43,6 +52,7 @@ final class LanguageRules extends TreePathScanner<Void, Void> {
     private static final Set<String> THROWN = Set.of("IllegalStateException", "IllegalArgumentException",
             "IndexOutOfBoundsException", "ArithmeticException", "UnsupportedOperationException",
             "NoSuchElementException", "RuntimeException");
+    private static final Set<String> NUMBERS = Set.of("int", "long", "short", "byte", "char", "boolean");
     private static final String OWN = "EscapeMill";
     private static final int MOST_PARAMETERS = 7;
     private static final int MOST_LINES = 60;
@@ -156,6 +166,12 @@ final class LanguageRules extends TreePathScanner<Void, Void> {
         } else if (!isConstructor) {
             otherNames.add(name);
         }
+        boolean isOfAll = Set.of("equals", "hashCode", "toString", "compareTo").contains(name);
+        asked(6, method + " is no equals, hashCode or toString", !isOfAll);
+        if (!isConstructor) {
+            Element returned = trees.getElement(getCurrentPath());
+            asksType(method, ((ExecutableElement) returned).getReturnType().toString());
+        }
         asked(11, method + " takes " + tree.getParameters().size(), tree.getParameters().size() <= MOST_PARAMETERS);
         long lines = line(tree, true) - line(tree, false) + 1;
         asked(11, method + " has " + lines + " lines", lines <= MOST_LINES);
@@ -167,17 +183,21 @@ final class LanguageRules extends TreePathScanner<Void, Void> {
     @Override
     public Void visitVariable(VariableTree tree, Void none) {
         String type = trees.getTypeMirror(new TreePath(getCurrentPath(), tree.getType())).toString();
-        String plain = type.replace("[]", "");
-        int dimensions = (type.length() - plain.length()) / 2;
-        boolean isNumber = Set.of("int", "long", "short", "byte", "char", "boolean").contains(plain);
-        boolean isOwn = plain.startsWith(OWN);
-        asked(3, tree.getName() + " is " + type, isNumber && dimensions <= 2 || isOwn && dimensions <= 1);
+        asksType(tree.getName().toString(), type);
         if (tree.getModifiers().getFlags().contains(Modifier.STATIC)) {
-            boolean isConstant = tree.getModifiers().getFlags().contains(Modifier.FINAL) && dimensions == 0
+            boolean isConstant = tree.getModifiers().getFlags().contains(Modifier.FINAL) && NUMBERS.contains(type)
                     && tree.getInitializer() != null;
-            asked(5, "static " + tree.getName() + " is a constant", isConstant && isNumber);
+            asked(5, "static " + tree.getName() + " is a constant", isConstant);
         }
         return super.visitVariable(tree, none);
+    }
+
+    private void asksType(String name, String type) {
+        String plain = type.replace("[]", "");
+        int dimensions = (type.length() - plain.length()) / 2;
+        boolean isNothing = plain.equals("void");
+        boolean isOwn = plain.equals(OWN) || plain.startsWith(OWN + ".");
+        asked(3, name + " is " + type, isNothing || NUMBERS.contains(plain) && dimensions <= 2 || isOwn && dimensions <= 1);
     }
 
     @Override
@@ -189,6 +209,9 @@ final class LanguageRules extends TreePathScanner<Void, Void> {
             calls.computeIfAbsent(method, k -> new TreeSet<>()).add(owner.getSimpleName() + "." + called.getSimpleName());
         } else if (!name.equals("java.lang.Object.<init>")) {
             asked(4, name + " in line " + line(tree, false), LIBRARY.contains(name));
+        }
+        if (isBeingMade()) {
+            asked(12, method + " calls " + name, name.equals("java.lang.Object.<init>"));
         }
         return super.visitMethodInvocation(tree, none);
     }
@@ -227,9 +250,52 @@ final class LanguageRules extends TreePathScanner<Void, Void> {
 
     @Override
     public Void visitForLoop(ForLoopTree tree, Void none) {
-        boolean counts = tree.getCondition() != null && tree.getInitializer().size() == 1 && tree.getUpdate().size() == 1;
-        asked(9, "the loop in line " + line(tree, false) + " counts to a bound", counts);
+        boolean isCounted = tree.getInitializer().size() == 1 && tree.getInitializer().get(0) instanceof VariableTree
+                && tree.getUpdate().size() == 1 && tree.getCondition() != null;
+        if (isCounted) {
+            String counter = ((VariableTree) tree.getInitializer().get(0)).getName().toString();
+            String step = tree.getUpdate().get(0).toString();
+            boolean up = step.equals(counter + "++;") && isBounded(tree.getCondition(), counter, Tree.Kind.LESS_THAN);
+            boolean down = step.equals(counter + "--;")
+                    && isBounded(tree.getCondition(), counter, Tree.Kind.GREATER_THAN_EQUAL);
+            isCounted = (up || down) && !isChanged(tree.getStatement(), counter);
+        }
+        asked(9, "the loop in line " + line(tree, false) + " counts to a bound", isCounted);
         return super.visitForLoop(tree, none);
+    }
+
+    /** Whether the condition asks, with others or alone, that the counter is on this side of something. */
+    private static boolean isBounded(ExpressionTree condition, String counter, Tree.Kind side) {
+        if (condition.getKind() == Tree.Kind.CONDITIONAL_AND) {
+            BinaryTree both = (BinaryTree) condition;
+            return isBounded(both.getLeftOperand(), counter, side) || isBounded(both.getRightOperand(), counter, side);
+        }
+        return condition.getKind() == side && ((BinaryTree) condition).getLeftOperand().toString().equals(counter);
+    }
+
+    private static boolean isChanged(Tree body, String counter) {
+        boolean[] changed = {false};
+        new TreeScanner<Void, Void>() {
+            @Override
+            public Void visitAssignment(AssignmentTree tree, Void none) {
+                changed[0] |= tree.getVariable().toString().equals(counter);
+                return super.visitAssignment(tree, none);
+            }
+
+            @Override
+            public Void visitCompoundAssignment(CompoundAssignmentTree tree, Void none) {
+                changed[0] |= tree.getVariable().toString().equals(counter);
+                return super.visitCompoundAssignment(tree, none);
+            }
+
+            @Override
+            public Void visitUnary(UnaryTree tree, Void none) {
+                boolean steps = tree.getKind().toString().endsWith("CREMENT");
+                changed[0] |= steps && tree.getExpression().toString().equals(counter);
+                return super.visitUnary(tree, none);
+            }
+        }.scan(body, null);
+        return changed[0];
     }
 
     @Override
@@ -303,5 +369,44 @@ final class LanguageRules extends TreePathScanner<Void, Void> {
     public Void visitAnnotation(AnnotationTree tree, Void none) {
         forbidden(4, "an annotation", tree);
         return super.visitAnnotation(tree, none);
+    }
+
+    @Override
+    public Void visitTypeCast(TypeCastTree tree, Void none) {
+        forbidden(6, "a cast", tree);
+        return super.visitTypeCast(tree, none);
+    }
+
+    @Override
+    public Void visitInstanceOf(InstanceOfTree tree, Void none) {
+        forbidden(6, "instanceof", tree);
+        return super.visitInstanceOf(tree, none);
+    }
+
+    @Override
+    public Void visitLiteral(LiteralTree tree, Void none) {
+        if (tree.getKind() == Tree.Kind.DOUBLE_LITERAL || tree.getKind() == Tree.Kind.FLOAT_LITERAL) {
+            forbidden(3, "a double or float", tree);
+        }
+        return super.visitLiteral(tree, none);
+    }
+
+    @Override
+    public Void visitIdentifier(IdentifierTree tree, Void none) {
+        if (isBeingMade() && tree.getName().contentEquals("this")) {
+            forbidden(12, "this in a constructor", tree);
+        }
+        return super.visitIdentifier(tree, none);
+    }
+
+    @Override
+    public Void visitMemberSelect(MemberSelectTree tree, Void none) {
+        Element chosen = trees.getElement(getCurrentPath());
+        if (chosen != null && chosen.getKind() == ElementKind.FIELD) {
+            String owner = String.valueOf(chosen.getEnclosingElement());
+            boolean isLength = tree.getIdentifier().contentEquals("length") && owner.equals("Array");
+            asked(13, tree + " in line " + line(tree, false), isLength || owner.startsWith(OWN));
+        }
+        return super.visitMemberSelect(tree, none);
     }
 }

@@ -24,6 +24,8 @@ public final class LanguageTest {
             List<Path> files = all.filter(Files::isRegularFile).collect(Collectors.toList());
             check.holds("files are " + files, files.equals(List.of(PROGRAM)));
         }
+        check.sentence("LANGUAGE.md, rule 3: texts hold characters 0 to 255 alone");
+        check.holds("plain characters", Files.readString(PROGRAM).chars().allMatch(c -> c < 128));
         JavaCompiler compiler = ToolProvider.getSystemJavaCompiler();
         try (StandardJavaFileManager manager = compiler.getStandardFileManager(null, null, null)) {
             JavacTask task = (JavacTask) compiler.getTask(null, manager, null, List.of("-proc:none"), null,

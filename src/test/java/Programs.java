@@ -7,7 +7,7 @@ import java.util.List;
  * behind a #.
  */
 final class Programs {
-    private static final List<String> NAMES = Arrays.asList("NEW", "COPY", "NULL", "GETR", "PUTR", "GETI", "PUTI",
+    static final List<String> NAMES = Arrays.asList("NEW", "COPY", "NULL", "GETR", "PUTR", "GETI", "PUTI",
             "CONST", "ADD", "SAME", "LOCK", "UNLOCK", "STORE", "FETCH", "JUMP", "ZERO", "CALL", "RETURN", "SHOW");
 
     private Programs() {
